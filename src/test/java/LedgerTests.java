@@ -207,6 +207,20 @@ public final class LedgerTests {
         same("signed too late", x.of(3, 4), 0);
         same("the first one", x.show(0, 0), -4);
         same("all that there is", x.count(6), 60000);
+
+        StateChannels y = three();
+        y.out(1, 1, 1);
+        signAll(y, 1);
+        for (int p = 0; p < 3; p++) {
+            same("agree", y.agree(1, p), p + 1);
+        }
+        same("an out of 1 is above 0", y.told(0, 0), 1);
+        same("sum", y.told(0, 1), 299);
+        for (int p = 0; p < 3; p++) {
+            same("agree anew", y.agree(1, p), p + 1);
+        }
+        same("no out is left", y.told(0, 0), 3);
+        same("account", y.account(1), 10000);
     }
 
     private static void secret() {
@@ -288,6 +302,7 @@ public final class LedgerTests {
         DUE.part("promise 15");
         StateChannels x = heldLocks();
         same("held", x.told(0, 7), 3);
+        same("no game, no deadline", x.told(0, 10), 0);
         same("account", x.account(0), 9980);
         same("claim", x.claim(0, 0, 0), 10);
         same("account", x.account(0), 9990);

@@ -42,6 +42,7 @@ public final class RouteTests {
         same("the same one", x.hop(0, 0, 0), -4);
         same("hop", x.hop(0, 0, 1), 1);
         same("not the second one of the hop before", x.hop(1, 2, 1), -4);
+        same("the first one's channel again", x.hop(0, 1, 0), -4);
         same("hop", x.hop(1, 1, 2), 2);
         same("in the route", x.hop(1, 2, 1), -4);
         same("in the route", x.hop(0, 1, 0), -4);

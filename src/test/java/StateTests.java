@@ -70,6 +70,12 @@ public final class StateTests {
         same("it counts", x.of(1, 4), 1);
     }
 
+    private static StateChannels poorFirst() {
+        StateChannels x = new StateChannels();
+        x.channel(3, 6000, 2);
+        return x;
+    }
+
     private static void channelRefusals() {
         DUE.part("promise 2, refusals");
         StateChannels x = new StateChannels();
@@ -89,6 +95,7 @@ public final class StateTests {
         same("account with less", x.channel(3, 4001, 2), -4);
         same("nothing changed", x.account(0), 10000);
         same("-3 before -4", x.channel(3, 4001, 1), -3);
+        same("the first party's account with less", poorFirst().channel(5, 4001, 2), -4);
         same("all of an account", x.channel(3, 4000, 2), 1);
         for (int c = 2; c < 8; c++) {
             same("channel " + c, x.channel(48, 1, 2), c);
