@@ -2,7 +2,7 @@ import java.util.ArrayList;
 import java.util.Arrays;
 import java.util.List;
 
-/** What is due at the edges that the document names. Each question goes to an object that is made anew. */
+/** What is due at the edges that the document names. Each run and each refused call has an object that is made anew. */
 final class Edges {
     static final int MIN = Integer.MIN_VALUE;
     static final int MAX = Integer.MAX_VALUE;

@@ -56,9 +56,10 @@ public final class HeightEdgeTests {
     }
 
     private static void heightFarUp() {
-        E.part("18: as far up as calls allow");
-        Scene far = Scene.NEW.times(500, "height(100)");
-        E.run(far, "count(3) = 50000", "channel(3, 1, 20) = 0", "show(0, 0) = 50020", "height(20) = 50020", "told(0, 0) = 3");
+        E.part("18: as far up as 512 calls go");
+        E.run(Scene.NEW.times(510, "height(100)"), "height(100) = 51100", "height(100) = 51200");
+        E.run(Scene.NEW.times(500, "height(100)"), "count(3) = 50000", "channel(3, 1, 20) = 0", "show(0, 0) = 50020", "height(20) = 50020",
+                "told(0, 0) = 3");
     }
 
     // ---- one height more: channels

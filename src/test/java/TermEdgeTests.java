@@ -185,6 +185,12 @@ public final class TermEdgeTests {
         Scene closing = Scene.PAIR.signed(1, 0, 1).then("show(0, 1) = 3");
         E.run(closing, "of(0, 4) = 1", "of(1, 4) = 1", "height(2) = 2", "of(0, 4) = 1", "of(1, 4) = 1",
                 "height(1) = 3", "of(0, 4) = 0", "of(1, 4) = 0", "of(1, 2) = 3", "told(0, 4) = -1");
+        E.part("It COUNTS when its CHANNEL is not ENDED, though its WHOLE is the SUM that is HELD");
+        Scene allHeld = Scene.PAIR.then("lock(1, 0, 1, 60, 0, 50) = 0", "lock(1, 1, 0, 60, 0, 50) = 1", "game(1, 0, 1, 40, 9) = 80")
+                .signed(1, 0, 1).then("agree(1, 0) = 1", "agree(1, 1) = 2");
+        E.run(allHeld, "told(0, 1) = 200", "of(1, 5) = 200", "of(1, 2) = 3", "of(1, 4) = 0", "of(0, 5) = 200", "of(0, 4) = 0");
+        E.run(Scene.NEW.then("channel(3, 0, 2) = 0", "agree(0, 0) = 1", "agree(0, 1) = 2"), "told(0, 1) = 0", "of(0, 5) = 0", "of(0, 4) = 0",
+                "told(0, 4) = -1");
     }
 
     private static void newestIsTheGreatestRank() {
